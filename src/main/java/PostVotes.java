@@ -764,6 +764,7 @@ public final class PostVotes {
         }
 
         void learn(int q) {
+            forget();
             for (int i = 0; i < log.size(); i++) {
                 Told row = log.get(i);
                 if (row.told <= q && isWithin(row.kind, 0, KINDS - 1)) {
@@ -865,7 +866,6 @@ public final class PostVotes {
 
         /** Finds on which day an envelope comes, and by which emptying if it comes by its box. */
         void settle(Envelope one, int q) {
-            one.forget();
             one.learn(q);
             one.comes = one.days[COME];
             int emptying = firstEmptying(one.values[DROP], one.days[DROP], q);
@@ -962,7 +962,6 @@ public final class PostVotes {
             for (int i = 0; i < envelopes.size(); i++) {
                 Envelope one = envelopes.get(i);
                 if (street == NONE || one.voter.street == street) {
-                    one.forget();
                     one.learn(q);
                     found += one.doublesOf(hand, what);
                 }

@@ -45,6 +45,10 @@ public final class HabitTest {
         x.hand(0, 0, true);
         Due.is("told last", x.habit(0, 0, 1), 0);
         Due.is("soft now", x.habit(0, 0, 2), 1);
+        x.days(5);
+        x.hand(2, 5, true);
+        Due.is("told later", x.habit(0, -1, 0), 10);
+        Due.is("harsh told later", x.habit(0, -1, 1), 5);
     }
 
     private static void habitBounds() {
@@ -85,6 +89,15 @@ public final class HabitTest {
         Due.is("2 of 4 by 3 of 8", y.harshest(), 2);
         y.size(5);
         Due.is("4 are not enough", y.harshest(), 1);
+        PostVotes w = told("ny", "yy", ".yn", ".yy");
+        w.size(2);
+        // 1 of 2 by hand 0, none of 4 by hand 1, 1 of 2 by hand 2
+        Due.is("alike: the lowest", w.harshest(), 0);
+        w.days(3);
+        w.hand(3, 2, false);
+        Due.is("2 of 2, told later", w.harshest(), 2);
+        PostVotes v = told("ny", "ny", "yy", "yy", "yy", "..ny", "..ny", "..ny", "..yy", "..yy", "..yy", "..yy", "..yy");
+        Due.is("2 of 5 by 3 of 8", v.harshest(), 0);
         PostVotes z = told("yyyyyy");
         z.size(5);
         Due.is("none harsh: the lowest", z.harshest(), 0);
@@ -142,6 +155,7 @@ public final class HabitTest {
             }
             Due.is("recheck(8, 7, " + seed + ")", x.recheck(8, 7, seed), due[7]);
         }
+        Due.is("recheck(1, 0)", x.recheck(1, 0, 77), lots(counted, 1, 77)[0]);
         Due.is("recheck k 0", x.recheck(0, 0, 1), -1);
         Due.is("recheck k 51", x.recheck(51, 0, 1), -1);
         Due.is("recheck i -1", x.recheck(5, -1, 1), -1);
@@ -166,5 +180,8 @@ public final class HabitTest {
         Due.is("the next one counts", sum, 1 + 2 + 3);
         x.event(1, 7, 0, 0);
         Due.is("fewer now", x.recheck(3, 0, 1), -1);
+        x.days(1);
+        x.event(2, 7, 0, 0);
+        Due.is("the only one now", x.recheck(1, 0, 1), 3);
     }
 }

@@ -61,6 +61,17 @@ public final class HeapTest {
         Due.is("usual part 1001", x.usual(0, 1001), -1);
         x.size(6);
         Due.is("fewer than six", x.usual(0, 500), -2);
+        PostVotes y = all("1=1?g", 1);
+        y.days(9);
+        y.size(3);
+        for (int i = 0; i < 3; i++) {
+            y.send(0, 0, 0);
+            y.event(i, 2, i + 1, 0);
+        }
+        int[][] due = {{333, 1}, {334, 2}, {666, 2}, {667, 3}};
+        for (int[] row : due) {
+            Due.is("of three, usual of " + row[0], y.usual(0, row[0]), row[1]);
+        }
     }
 
     private static void ends() {

@@ -55,6 +55,9 @@ public final class JudgedTest {
         }
         Due.is("reason", x.reason(0, 3), 5);
         Due.is("ruled", x.ruled(0, 3), 0);
+        x.event(0, 4, 0, 0);
+        Due.is("rule of a lost one", x.ruled(0, 3), -1);
+        Due.is("reason of a lost one", x.reason(0, 3), -1);
         PostVotes y = new PostVotes();
         y.voter(0, 0, 0);
         y.send(0, 0, 0);
@@ -110,6 +113,14 @@ public final class JudgedTest {
         Due.is("waits till c + 2", x.state(0, 6), 3);
         x.days(1);
         Due.is("no longer", x.state(0, 7), 4);
+        PostVotes y = withLaw("t=5?g;1=1?c t");
+        y.days(4);
+        y.send(0, 0, 0);
+        y.event(0, 2, 4, 0);
+        Due.is("waits as long as it is asked for", y.state(0, 4), 3);
+        y.days(2);
+        Due.is("by the day of asking", y.state(0, 5), 2);
+        Due.is("waits then", y.state(0, 6), 3);
     }
 
     private static void shireOfTheDay() {

@@ -78,7 +78,13 @@ public final class PrintTest {
         Due.is("fourth", x.printed(3), 31);
         x.wave(1, 2, 2);
         Due.is("one more ahead", x.printed(4), 2);
-        Due.is("first a day later", x.printed(0), 14);
+        Due.is("first within its day yet", x.printed(0), 14);
+        PostVotes y = new PostVotes();
+        y.press(10);
+        y.wave(50, 0, 50);
+        y.wave(1, 2, 2);
+        Due.is("one comes between", y.printed(1), 2);
+        Due.is("and makes it a day later", y.printed(0), 5);
     }
 
     private static void longOnes() {
@@ -109,5 +115,9 @@ public final class PrintTest {
         Due.is("the greatest", x.latest(), 12);
         x.press(1000);
         Due.is("none again", x.latest(), 0);
+        PostVotes y = new PostVotes();
+        y.wave(1000, 0, 4);
+        y.wave(1, 20, 20);
+        Due.is("of the first one", y.latest(), 5);
     }
 }

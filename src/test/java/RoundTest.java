@@ -66,6 +66,7 @@ public final class RoundTest {
 
     private static void rounds() {
         PostVotes x = new PostVotes();
+        Due.is("round 0 without boxes", x.round(0), 0);
         Due.is("round -1", x.round(-1), -1);
         Due.is("round 1441", x.round(1441), -1);
         Due.is("round 1440 without boxes", x.round(1440), 1440);
@@ -80,6 +81,10 @@ public final class RoundTest {
         Due.is("route of none", x.route(1440, 0), -1);
         Due.is("route again", x.route(3, 0), 4);
         Due.is("round again", x.round(3), 68);
+        PostVotes y = new PostVotes();
+        y.stand(0, 0, 1440);
+        Due.is("box 0 alone", y.round(0), 65);
+        Due.is("its route", y.route(0, 0), 0);
     }
 
     private static void windows() {

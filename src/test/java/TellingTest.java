@@ -11,6 +11,7 @@ public final class TellingTest {
         eventBoxes();
         emptyings();
         sealed();
+        sealedOnTheLastDay();
         sealedBehindLoss();
         signsRead();
         hands();
@@ -233,6 +234,20 @@ public final class TellingTest {
         Due.is("sealed q -1", x.sealed(0, -1), -1);
     }
 
+    private static void sealedOnTheLastDay() {
+        PostVotes x = new PostVotes();
+        x.voter(0, 0, 0);
+        x.days(400);
+        x.send(0, 0, 0);
+        x.event(0, 3, 400, 5);
+        x.empty(5, 399, 1);
+        Due.is("not come", x.state(0, 400), 0);
+        x.empty(5, 400, 1);
+        Due.is("come on the last day", Due.letter(x, 0, 'c', 400), 400);
+        Due.is("sealed right", x.sealed(1, 400), 0);
+        Due.is("sealed wrong", x.sealed(0, 400), 1);
+    }
+
     private static void sealedBehindLoss() {
         PostVotes x = new PostVotes();
         x.voter(0, 0, 0);
@@ -332,6 +347,13 @@ public final class TellingTest {
         Due.yes("booth again", x.booth(0, 2));
         Due.is("b told last", Due.letter(x, 0, 'b', 8), 2);
         Due.is("b as known before", Due.letter(x, 0, 'b', 7), 7);
+        PostVotes y = new PostVotes();
+        y.voter(0, 0, 0);
+        y.send(0, 0, 0);
+        y.days(1);
+        y.booth(0, 0);
+        Due.is("b now", Due.letter(y, 0, 'b', 1), 0);
+        Due.is("b not known before", Due.letter(y, 0, 'b', 0), -1);
         for (int i = 3; i < 100; i++) {
             Due.yes("booth " + i, x.booth(0, 3));
         }
