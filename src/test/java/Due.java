@@ -2,8 +2,16 @@
 final class Due {
     private static int right;
     private static int wrong;
+    private static String held = "";
 
     private Due() {
+    }
+
+    /** The sentence of the document that the next answers hold, and its part: a promise, or one of the six of Terms. */
+    static void sentence(String part, String words) {
+        held = "";
+        yes(part + " has the words: " + words, !Doc.isThere() || Doc.hold(part, words));
+        held = part + ", \"" + words + "\": ";
     }
 
     static void is(String call, long got, long want) {
@@ -11,7 +19,7 @@ final class Due {
             right++;
         } else {
             wrong++;
-            System.out.println(call + " answered " + got + ", due is " + want);
+            System.out.println(held + call + " answered " + got + ", due is " + want);
         }
     }
 
