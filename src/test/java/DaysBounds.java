@@ -96,7 +96,7 @@ final class DaysBounds {
 
     /** Each thing is told on day 4 for a day ahead of it: not known in 3, known in 4. */
     private static void knownFromItsDay() {
-        Due.sentence(PART, "as known in q (0 .. NOW) only what was told on DAYS up to q counts.");
+        Due.sentence(PART, "only what was told on DAYS up to q counts.");
         PostVotes x = House.under("1=1?g", 2);
         for (int i = 0; i < 9; i++) {
             x.send(0, 1, 0);
@@ -121,23 +121,30 @@ final class DaysBounds {
             if (letter != '.') {
                 Due.is("letter " + letter + " in 3", Due.letter(x, kind, letter, 3), -1);
                 Due.is("letter " + letter + " in 4", Due.letter(x, kind, letter, 4), 1);
+                Due.is("letter " + letter + " in 9", Due.letter(x, kind, letter, 9), 1);
             }
         }
         Due.is("EMPTYING in 5", Due.letter(x, 3, 'c', 5), -1);
         Due.is("EMPTYING in 6", Due.letter(x, 3, 'c', 6), 1);
+        Due.is("EMPTYING in 9", Due.letter(x, 3, 'c', 9), 1);
         Due.is("SEALED in 5", x.sealed(0, 5), -1);
         Due.is("SEALED in 6", x.sealed(0, 6), 0);
+        Due.is("SEALED in 9", x.sealed(0, 9), 0);
         int[][] known = {{'s', 9, 0}, {'y', 0, 1}, {'z', 0, 1}, {'b', -1, 1}, {'e', 9, 10}};
         for (int[] row : known) {
             Due.is("letter " + (char) row[0] + " in 3", Due.letter(x, 0, row[0], 3), row[1]);
             Due.is("letter " + (char) row[0] + " in 4", Due.letter(x, 0, row[0], 4), row[2]);
+            Due.is("letter " + (char) row[0] + " in 9", Due.letter(x, 0, row[0], 9), row[2]);
         }
         Due.is("SENT in 3", x.state(9, 3), -1);
         Due.is("SENT in 4", x.state(9, 4), 0);
+        Due.is("SENT in 9", x.state(9, 9), 0);
         Due.is("MOVE in 3", x.shire(0, 1, 3), 0);
         Due.is("MOVE in 4", x.shire(0, 1, 4), 1);
+        Due.is("MOVE in 9", x.shire(0, 1, 9), 1);
         Due.is("LAW in 3", x.lawful(2, 1, 3), -1);
         Due.is("LAW in 4", x.lawful(2, 1, 4), 1);
+        Due.is("LAW in 9", x.lawful(2, 1, 9), 1);
     }
 
     private static void voters() {
@@ -537,5 +544,11 @@ final class DaysBounds {
         x.booth(0, 3);
         Due.is("told last", Due.letter(x, 0, 'b', 5), 3);
         Due.is("not of another VOTER", Due.letter(x, 1, 'b', 5), -1);
+        x.voter(3, 0, 0);
+        x.booth(2, 0);
+        Due.is("no MOVE", x.shire(2, 5, 5), 3);
+        x.send(2, 0, 0);
+        x.move(2, 1, 4);
+        Due.is("a MOVE is no BOOTH", Due.letter(x, 2, 'b', 5), 0);
     }
 }

@@ -113,6 +113,15 @@ final class HeapBounds {
         x.move(0, 0, 400);
         Due.is("moved back", x.late(11), 1);
         Due.is("one that came", x.late(0), -1);
+        // 900 thousandths of 109 are 98.1, and 899 thousandths but 97.991
+        PostVotes z = House.under("1=1?g", 400);
+        for (int i = 0; i < 109; i++) {
+            House.come(z, 0, 0, i + 1);
+        }
+        z.send(0, 201, 0);
+        z.send(0, 202, 0);
+        Due.is("the 99th of 109: on the END", z.late(109), 0);
+        Due.is("the 99th of 109: behind the END", z.late(110), 1);
         PostVotes y = House.under("1=1?g", 9);
         for (int i = 0; i < 5; i++) {
             House.come(y, 0, 9, 0);

@@ -150,6 +150,8 @@ final class LawBounds {
         holds("!(1=2&1=2)", true);
         holds("!1=1|1=1", true);
         holds("!(1=1|1=1)", false);
+        holds("!1=2&1=1", true);
+        holds("1=1&!1=2&!1=2", true);
     }
 
     private static void sums() {

@@ -350,7 +350,7 @@ public final class ModelTest {
             if (text.length() > 200) {
                 text.setLength(200);
             }
-            if (i % 40 == 0) {
+            if (i % 30 == 0) {
                 x = new PostVotes();
             }
             Due.is("fault of " + text, Due.fault(x, text.toString()), ModelLaw.fault(text.toString()));

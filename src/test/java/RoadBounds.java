@@ -21,6 +21,7 @@ final class RoadBounds {
         homeFirst();
         lowerBox();
         mayBeNone();
+        bestOfAllWays();
     }
 
     private static void waves() {
@@ -102,6 +103,22 @@ final class RoadBounds {
         Due.is("READY on its DAY", x.printed(1), 2);
         Due.is("that was in between", x.printed(0), 3);
         Due.is("not READY ahead of its DAY", x.printed(2), 4);
+        x.wave(100, 5, 400);
+        x.wave(1, 7, 7);
+        x.wave(1, 9, 9);
+        x.wave(20, 12, 12);
+        // the long one is printed all but two pieces of days 7 and 9, and days 12 and 13
+        Due.is("READY first of three", x.printed(4), 7);
+        Due.is("READY second of three", x.printed(5), 9);
+        Due.is("READY third of three", x.printed(6), 13);
+        Due.is("a long one, with three in between", x.printed(3), 17);
+        PostVotes z = new PostVotes();
+        z.wave(1, 9, 9);
+        z.wave(1, 7, 7);
+        z.wave(1, 5, 5);
+        for (int i = 0; i < 3; i++) {
+            Due.is("none READY in between", z.printed(i), 9 - 2 * i);
+        }
         PostVotes y = new PostVotes();
         y.wave(1, 400, 400);
         y.wave(1, 0, 400);
@@ -139,6 +156,11 @@ final class RoadBounds {
         Due.is("one DAY behind", x.latest(), 1);
         x.wave(500, 1, 2);
         Due.is("the greatest", x.latest(), 5);
+        PostVotes z = new PostVotes();
+        z.wave(300, 0, 0);
+        Due.is("of one WAVE", z.latest(), 2);
+        z.wave(1, 9, 9);
+        Due.is("the first is the latest", z.latest(), 2);
         PostVotes y = new PostVotes();
         y.press(1);
         for (int i = 0; i < 12; i++) {
@@ -340,5 +362,72 @@ final class RoadBounds {
         x.road(0, 1, 5);
         Due.is("now both", x.round(0), 75);
         Due.is("from a minute later", x.round(1), -1);
+    }
+
+    private static long lot = 20261119;
+
+    private static int lot(int least, int most) {
+        lot = lot * 2862933555777941757L + 3037000493L;
+        return least + (int) ((lot >>> 33) % (most - least + 1));
+    }
+
+    /** Roads, hours and stops by lots, and every order of the BOXES tried. */
+    private static void bestOfAllWays() {
+        Due.sentence(PART, "BEST comes home first; of several the one with the lower BOX where they first differ. There may be none.");
+        int none = 0;
+        for (int run = 0; run < 400; run++) {
+            PostVotes x = new PostVotes();
+            int[][] roads = new int[9][9];
+            // long and short roads, or short ones alone, so that many are alike
+            int longest = run % 2 == 0 ? 300 : 4;
+            for (int one = 0; one < 9; one++) {
+                for (int other = 0; other < one; other++) {
+                    roads[one][other] = lot(1, lot(0, 1) == 0 ? longest : 9);
+                    roads[other][one] = roads[one][other];
+                    x.road(one, other, roads[one][other]);
+                }
+            }
+            int stop = lot(0, 3);
+            x.stops(stop);
+            int[][] hours = new int[8][];
+            for (int i = lot(1, 6); i > 0; i--) {
+                int box = lot(0, 7);
+                int from = lot(0, 2) == 0 ? lot(0, 200) : 0;
+                hours[box] = new int[] {from, lot(0, 3) == 0 ? from + lot(0, 300) : 1440};
+                x.stand(box, hours[box][0], hours[box][1]);
+            }
+            int start = lot(0, 60);
+            int[] best = {-1, -1, -1, -1, -1, -1, -1};
+            tryAll(roads, hours, stop, new int[] {8, start}, new int[7], 1, best);
+            Due.is("run " + run + ": round(" + start + ")", x.round(start), best[0]);
+            for (int i = 0; i < 6; i++) {
+                Due.is("run " + run + ": route(" + start + ", " + i + ")", x.route(start, i), best[i + 1]);
+            }
+            none += best[0] < 0 ? 1 : 0;
+        }
+        Due.yes("some have no ROUND, and most have one: " + none, none > 20 && none < 200);
+    }
+
+    /** Goes on from a place and a minute to all BOXES not in the way so far, the lower ones first. */
+    private static void tryAll(int[][] roads, int[][] hours, int stop, int[] at, int[] way, int been, int[] best) {
+        boolean last = true;
+        for (int box = 0; box < 8; box++) {
+            boolean open = hours[box] != null;
+            for (int i = 1; i < been; i++) {
+                open = open && way[i] != box;
+            }
+            last = last && !open;
+            int there = at[1] + roads[at[0]][box];
+            if (open && there <= hours[box][1]) {
+                way[been] = box;
+                tryAll(roads, hours, stop, new int[] {box, Math.max(there, hours[box][0]) + stop}, way, been + 1, best);
+            }
+        }
+        int home = at[1] + roads[at[0]][8];
+        if (last && (best[0] < 0 || home < best[0])) {
+            for (int i = 0; i < best.length; i++) {
+                best[i] = i == 0 ? home : i < been ? way[i] : -1;
+            }
+        }
     }
 }

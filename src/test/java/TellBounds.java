@@ -429,6 +429,11 @@ final class TellBounds {
         Due.is("are bytes that no TEXT has", y.fault(), 0);
         y.end(0);
         Due.is("the greatest number", y.feed(Integer.MAX_VALUE, 0, 0, 0, 0), 4);
+        for (int i = 1; i <= 255; i++) {
+            PostVotes z = new PostVotes();
+            Due.is("byte " + i + " and 0", z.feed(i << 24, i << 16, i << 8, i, 0), 4);
+            Due.is("the TAPE has them", z.count(10), 4);
+        }
         List<Integer> had = new ArrayList<>();
         y.end(0);
         for (int i = 0; i < 10; i++) {
@@ -523,6 +528,15 @@ final class TellBounds {
         Due.is("the TAPE stays", x.count(10), 5);
         Due.feed(x, "g");
         Due.is("the sixth byte", x.fault(), 5);
+        PostVotes z = new PostVotes();
+        z.voter(0, 0, 0);
+        Due.feed(z, "[1+2]*3-4=5&1=1|t#t?v1;-[2-3]=1&!k#0?v2");
+        for (int i = 0; i < 100; i++) {
+            Due.is("asked time and again", z.fault(), -1);
+        }
+        Due.is("a LAW yet", z.law(0, 0), 0);
+        House.come(z, 0, 0, 0);
+        Due.is("by its first RULE", z.reason(0, 0), 1);
         StringBuilder text = new StringBuilder("1=1?g");
         while (text.length() < 200) {
             text.append(' ');
