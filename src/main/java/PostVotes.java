@@ -1064,7 +1064,7 @@ public final class PostVotes {
             return verdict != 'c' || readSum(0);
         }
 
-        boolean readCondition(int depth) {
+        private boolean readCondition(int depth) {
             boolean fits = readPart(depth);
             for (int i = 0; i < length && fits && takes('|'); i++) {
                 fits = readPart(depth);
@@ -1073,7 +1073,7 @@ public final class PostVotes {
             return fits;
         }
 
-        boolean readPart(int depth) {
+        private boolean readPart(int depth) {
             boolean fits = readUnit(depth);
             for (int i = 0; i < length && fits && takes('&'); i++) {
                 fits = readUnit(depth);
@@ -1082,7 +1082,7 @@ public final class PostVotes {
             return fits;
         }
 
-        boolean readUnit(int depth) {
+        private boolean readUnit(int depth) {
             int sign = nextSign();
             if (sign != '!' && sign != '(') {
                 return readComparison(depth);
@@ -1113,7 +1113,7 @@ public final class PostVotes {
             return fits;
         }
 
-        boolean readSum(int depth) {
+        private boolean readSum(int depth) {
             boolean fits = readTerm(depth);
             for (int i = 0; i < length && fits; i++) {
                 int sign = nextSign();
@@ -1127,7 +1127,7 @@ public final class PostVotes {
             return fits;
         }
 
-        boolean readTerm(int depth) {
+        private boolean readTerm(int depth) {
             boolean fits = readAtom(depth);
             for (int i = 0; i < length && fits && takes('*'); i++) {
                 fits = readAtom(depth);
@@ -1136,7 +1136,7 @@ public final class PostVotes {
             return fits;
         }
 
-        boolean readAtom(int depth) {
+        private boolean readAtom(int depth) {
             int sign = nextSign();
             if (isLetter(sign)) {
                 at++;
@@ -1464,7 +1464,7 @@ public final class PostVotes {
          * Tries the ways on, lower boxes first. A way that is not sooner at a box than an earlier one that
          * has been at the same boxes can't come home sooner than that, and loses to it when they are alike.
          */
-        void goOn(int place, int minute, int been, int depth) {
+        private void goOn(int place, int minute, int been, int depth) {
             if (depth >= BOXES || been == all) {
                 comeHome(minute + roads[place * PLACES + HOUSE]);
                 return;

@@ -31,6 +31,12 @@ final class Doc {
         return at >= 0;
     }
 
+    /** The words of a part, without line ends. */
+    static String text(String part) {
+        read();
+        return TEXTS.getOrDefault(part, "");
+    }
+
     /** The words of Terms, constants and promises that no test holds. */
     static List<String> unheld() {
         read();

@@ -5,6 +5,8 @@ import java.util.ArrayList;
 import java.util.Arrays;
 import java.util.List;
 import java.util.TreeSet;
+import java.util.regex.Matcher;
+import java.util.regex.Pattern;
 
 /** The face of the class, and what of LANGUAGE.md can be seen by reflection. */
 public final class FaceTest {
@@ -20,6 +22,7 @@ public final class FaceTest {
 
     public static void main(String[] args) throws Exception {
         face();
+        documented();
         parts();
         Due.end("FaceTest");
     }
@@ -44,6 +47,26 @@ public final class FaceTest {
         }
         Class<?>[] thrown = house.getMethod("letter", int.class, int.class, int.class).getExceptionTypes();
         Due.yes("letter tells what it throws", Arrays.asList(thrown).contains(java.util.NoSuchElementException.class));
+    }
+
+    /** The document's face is the list above. */
+    private static void documented() {
+        if (!Doc.isThere()) {
+            return;
+        }
+        TreeSet<String> told = new TreeSet<>();
+        Matcher method = Pattern.compile("public (int|boolean) (\\w+)\\(([^)]*)\\)( throws NoSuchElementException)?;").matcher(Doc.text("The public face"));
+        while (method.find()) {
+            String kinds = method.group(3).replaceAll(" \\w+(,|$) ?", "$1");
+            told.add(method.group(2) + "(" + kinds + "):" + method.group(1));
+            Due.yes(method.group(2) + " is told to throw", method.group(2).equals("letter") == (method.group(4) != null));
+        }
+        Due.yes("the document's methods: " + told, told.equals(new TreeSet<>(Arrays.asList(FACE))));
+        Matcher constant = Pattern.compile("public static final int (\\w+) = (-?\\d+);").matcher(Doc.text("The public face"));
+        while (constant.find()) {
+            int value = constant.group(1).equals("NONE") ? PostVotes.NONE : constant.group(1).equals("HIDDEN") ? PostVotes.HIDDEN : 0;
+            Due.is("constant " + constant.group(1), value, Integer.parseInt(constant.group(2)));
+        }
     }
 
     private static String faceOf(Method method) {
