@@ -1456,7 +1456,7 @@ public final class PostVotes {
             home = all == 0 ? start : NONE;
             Arrays.fill(soonest, NEVER);
             if (all != 0) {
-                goOn(HOUSE, start, 0, 0);
+                goOn(this, HOUSE, start, 0, 0);
             }
         }
 
@@ -1464,19 +1464,19 @@ public final class PostVotes {
          * Tries the ways on, lower boxes first. A way that is not sooner at a box than an earlier one that
          * has been at the same boxes can't come home sooner than that, and loses to it when they are alike.
          */
-        private void goOn(int place, int minute, int been, int depth) {
-            if (depth >= BOXES || been == all) {
-                comeHome(minute + roads[place * PLACES + HOUSE]);
+        private static void goOn(Van van, int place, int minute, int been, int depth) {
+            if (depth >= BOXES || been == van.all) {
+                van.comeHome(minute + van.roads[place * PLACES + HOUSE]);
                 return;
             }
             for (int box = 0; box < BOXES; box++) {
                 int now = been | 1 << box;
-                int there = minute + roads[place * PLACES + box];
-                boolean stands = (all & ~been & 1 << box) != 0;
-                if (stands && there <= to[box] && there < soonest[now * BOXES + box]) {
-                    soonest[now * BOXES + box] = there;
-                    path[depth] = box;
-                    goOn(box, Math.max(there, from[box]) + stop, now, depth + 1);
+                int there = minute + van.roads[place * PLACES + box];
+                boolean stands = (van.all & ~been & 1 << box) != 0;
+                if (stands && there <= van.to[box] && there < van.soonest[now * BOXES + box]) {
+                    van.soonest[now * BOXES + box] = there;
+                    van.path[depth] = box;
+                    goOn(van, box, Math.max(there, van.from[box]) + van.stop, now, depth + 1);
                 }
             }
         }

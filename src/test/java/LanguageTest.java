@@ -27,6 +27,7 @@ public final class LanguageTest {
 
     private static final Map<String, Set<String>> CALLS = new TreeMap<>();
     private static final Set<String> PRIVATE = new TreeSet<>();
+    private static final Set<String> STATIC = new TreeSet<>();
 
     public static void main(String[] args) throws Exception {
         String text = Files.readString(SOURCE);
@@ -99,6 +100,9 @@ public final class LanguageTest {
                 if (line.startsWith("  private ")) {
                     PRIVATE.add(caller);
                 }
+                if (line.contains(" static ")) {
+                    STATIC.add(caller);
+                }
             } else if (call.matches()) {
                 CALLS.get(caller).add((call.group(1) == null ? owner : call.group(1)) + "." + call.group(2));
             }
@@ -118,7 +122,10 @@ public final class LanguageTest {
             reach(caller, reached);
             if (reached.contains(caller)) {
                 again.add(caller);
+                reached.removeIf(called -> !reaches(called, caller));
+                boolean alone = reached.size() == 1;
                 Due.yes(caller + " comes to itself, and is private", PRIVATE.contains(caller));
+                Due.yes(caller + " calls no other that comes to it, and is static", !alone || STATIC.contains(caller));
             }
         }
         for (String caller : CALLS.keySet()) {
@@ -133,6 +140,12 @@ public final class LanguageTest {
                 reach(called, reached);
             }
         }
+    }
+
+    private static boolean reaches(String caller, String called) {
+        Set<String> reached = new TreeSet<>();
+        reach(caller, reached);
+        return reached.contains(called);
     }
 
     /** How deep the calls go from one on, those that come to themselves counted as one. */
